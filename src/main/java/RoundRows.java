@@ -861,7 +861,7 @@ public final class RoundRows {
 
         void put(int four) {
             for (int shift = 24; shift >= 0; shift -= 8) {
-                if (length < TAPE_MOST) {
+                if (length < signs.length) {
                     signs[length] = (char) (four >>> shift & 255);
                     length++;
                 }
@@ -884,7 +884,7 @@ public final class RoundRows {
         }
 
         private void add(int kind, int start, int stop) {
-            if (tokens <= TAPE_MOST) {
+            if (tokens < kinds.length) {
                 kinds[tokens] = kind;
                 starts[tokens] = start;
                 stops[tokens] = stop;
@@ -1247,7 +1247,7 @@ public final class RoundRows {
         }
 
         private void remember(int name, int bearer) {
-            if (names < NAMES_MOST) {
+            if (names < nameTokens.length) {
                 nameTokens[names] = name;
                 nameBearers[names] = bearer;
                 names++;
@@ -1325,7 +1325,7 @@ public final class RoundRows {
         }
 
         private void await(int sign) {
-            if (waits < CODES_MOST) {
+            if (waits < waiting.length) {
                 waiting[waits] = sign;
                 waits++;
             }
@@ -1396,9 +1396,6 @@ public final class RoundRows {
         int band;
 
         void clear() {
-            sort = GAUGE;
-            widthOne = 0;
-            widthTwo = 0;
             least = 0;
             most = NUMBER_MOST;
             season = 0;
@@ -1436,7 +1433,7 @@ public final class RoundRows {
         }
 
         void put(int code, int part) {
-            if (length < CODES_MOST) {
+            if (length < codes.length) {
                 codes[length] = code;
                 parts[length] = part;
                 length++;
@@ -1444,7 +1441,7 @@ public final class RoundRows {
         }
 
         void endShow() {
-            if (shows < SHOWS_MOST) {
+            if (shows < ends.length) {
                 ends[shows] = length;
                 shows++;
             }
@@ -1475,7 +1472,7 @@ public final class RoundRows {
                     push(ring.rowOf(rowNumber, part));
                     break;
                 case CODE_SHOW:
-                    push(part >= 0 && part < SHOWS_MOST ? results[part] : UNKNOWN);
+                    push(part >= 0 && part < results.length ? results[part] : UNKNOWN);
                     break;
                 default:
                     int right = pop();
@@ -1486,7 +1483,7 @@ public final class RoundRows {
         }
 
         private void push(int v) {
-            if (top < UNITS_MOST) {
+            if (top < stack.length) {
                 stack[top] = v;
                 top++;
             }
@@ -1721,8 +1718,8 @@ public final class RoundRows {
 
         /** Ever greater numbers are by the second width more, by the first, by none: in this order. */
         private int leastCount(MeasurePlan its, long low, int span) {
-            // the greatest amount whose rate, cut, is not above most
-            long high = (span * ((long) most * THOUSAND + 1) - 1) / THOUSAND;
+            // a span is 1000 at most, so one more is a thousandth more in the rate, however that is cut
+            long high = (long) most * span;
             int one = 1 << its.widthOne;
             int two = 1 << its.widthTwo;
             int found = leastWithin(0, last - one - 1, two - last, low, high);

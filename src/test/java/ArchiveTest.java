@@ -371,6 +371,11 @@ public final class ArchiveTest {
         x.read(3, 1, 0, 0, 0);
         // at 15: 0 begins at 12, 1 at 3, 3 at 6
         Due.due("none reaches 2: begins first", x.best(0, 2), 1);
+        // one begins at 9 just where it is asked from, the other one ahead of it at 0
+        x = Due.stored("step 1; archive mean 3 by 4 share 0; archive mean 1 by 3 share 0;");
+        x.read(12, 0, 0, 0, 0);
+        Due.due("just from 9", x.best(0, 9), 1);
+        Due.due("from 8", x.best(0, 8), 0);
         // like ones: 2 STEPS a row and 4 rows, 1 STEP a row and 8 rows, 4 and 2, all from 0 on
         x = Due.stored("step 1; archive least 2 by 4 share 0; archive least 1 by 8 share 0; archive least 4 by 2 share 0;"
                 + "archive least 1 by 8 share 1;");

@@ -320,6 +320,8 @@ public final class ReadingTest {
         x.turn(1, 2, 999_999);
         x.turn(1, 1, 3333);
         Due.due("amount at the edge", x.fits(300, 1), 999_900);
+        x.turn(1, 1, 333_333);
+        Due.due("amount just at the greatest number", x.fits(3, 1), 999_999);
         x.turn(1, 1, 3334);
         Due.due("amount beyond", x.fits(300, 1), -1);
         Due.due("amount's silence", x.fits(301, 1), -1);
@@ -358,6 +360,12 @@ public final class ReadingTest {
         // a rate is cut: 47 by 2 is 23500, above 23
         x.turn(0, 1, 23);
         Due.due("46 by 2", x.fits(2, 0), 22);
+        x.turn(0, 0, 1000);
+        x.turn(0, 1, 0);
+        x.turn(0, 2, 0);
+        // 0 more by a span of 1000 (1 more is a thousandth), though 24 is 0 more by the first width
+        Due.due("none more by 1000", x.fits(1000, 0), 24);
+        x.turn(0, 0, 20);
         Due.due("silence", x.fits(21, 0), -1);
         x.read(1, 64, 0, 0, 0);
         Due.due("none told last", x.fits(1, 0), -1);

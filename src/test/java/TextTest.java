@@ -66,6 +66,32 @@ public final class TextTest {
         x.end(7);
         Due.due("cut store", x.store(), 0);
         Due.due("its step", x.about(0), 5);
+        Due.put(x, "step 5; show s = 12345;");
+        x.end(18);
+        Due.due("cut in a number", x.store(), -1);
+        Due.due("its place", x.fault(1), 18);
+        Due.put(x, "step 5; measure gg gauge silence 1; show t = gg;");
+        x.end(17);
+        Due.due("cut in a word", x.store(), -1);
+        Due.due("its place", x.fault(1), 17);
+        for (String sign : new String[] {"(", "7", "s", ";"}) {
+            Due.put(x, "step 5;" + sign.repeat(993));
+            Due.due("tape is full", x.about(11), 1000);
+            Due.due("full of " + sign, x.store(), -1);
+            Due.due("its fault", x.fault(0), 1);
+            Due.due("its place", x.fault(1), 7);
+            Due.put(x, sign.repeat(1000));
+            Due.due("full of " + sign, x.store(), -1);
+            Due.due("its place", x.fault(1), 0);
+        }
+        Due.put(x, "step 5; show s = 0" + " ".repeat(981) + "7");
+        Due.due("a number at the tape's end", x.store(), -1);
+        Due.due("its place", x.fault(1), 999);
+        Due.put(x, "step 5; show s = " + "0".repeat(982) + "7");
+        Due.due("a number up to the tape's end", x.store(), -1);
+        Due.due("its place", x.fault(1), 1000);
+        Due.put(x, "step 5; show s = " + "0".repeat(981) + "7;");
+        Due.due("a long number", x.store(), 0);
         Due.put(x, "step 6");
         Due.put(x, "0 ;");
         Due.due("two feeds", x.store(), 0);
@@ -82,6 +108,10 @@ public final class TextTest {
         Due.due("blank store", x.store(), 0);
         Due.due("step", x.about(0), 1);
         Due.due("fault", x.fault(0), 0);
+        Due.put(x, "step 8;" + G);
+        x.store();
+        Due.due("empty store behind two", x.store(), 0);
+        Due.due("step", x.about(0), 1);
     }
 
     private static void fault(String text, int what, int place) {
@@ -343,5 +373,20 @@ public final class TextTest {
         Due.due("forecast anew", x.forecast(0, 2), 0);
         Due.due("level anew", x.forecast(0, 0), 0);
         Due.due("kept anew", x.forecast(0, 5), 0);
+        formulasAnew(x);
+    }
+
+    /** What earlier texts, good ones and bad ones, left behind does not come into later formulas. */
+    private static void formulasAnew(RoundRows x) {
+        Due.put(x, "step 1; show s = 1 + 2 * (3 - ");
+        x.store();
+        for (int k = 0; k < 4; k++) {
+            Due.put(x, "step 1; archive mean 1 by 1 share 0; show s = " + k + " + 1".repeat(29) + ";");
+            Due.due("store " + k, x.store(), 0);
+            x.read(1, 0, 0, 0, 0);
+            Due.due("show of store " + k, x.show(0, 0, 0), 1000 * (29 + k));
+            Due.put(x, "step 1; show s = 1 or 2 + 3 * ;");
+            x.store();
+        }
     }
 }

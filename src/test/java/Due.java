@@ -44,6 +44,47 @@ final class Due {
         return x;
     }
 
+    /** A fault where the mark | stands (which is taken out), and none is stored. */
+    static void faultAt(String text, int what) {
+        int at = text.indexOf('|');
+        String whole = text.substring(0, at) + text.substring(at + 1);
+        RoundRows x = new RoundRows();
+        put(x, whole);
+        due("store of " + whole, x.store(), RoundRows.NONE);
+        due("fault of " + whole, x.fault(0), what);
+        due("place of " + whole, x.fault(1), at);
+    }
+
+    /** Readings one behind another, each so much later, with a number that is told for each measure. */
+    static void reads(RoundRows x, int later, int... numbers) {
+        for (int n : numbers) {
+            x.read(later, n, n, n, n);
+        }
+    }
+
+    /** What an object answers of its state, in one number; few calls, since an object is used for 512 at most. */
+    static long stateOf(RoundRows x) {
+        long state = 17;
+        for (int what = 5; what < 12; what++) {
+            state = state * 31 + x.about(what);
+        }
+        for (int m = 0; m < x.about(1); m++) {
+            for (int what = 0; what < 6; what++) {
+                state = state * 31 + x.measure(m, what);
+            }
+            state = (state * 31 + x.rate(m)) * 31 + x.value(m);
+            for (int what = 0; what < 6; what += what == 2 ? 3 : 1) {
+                state = state * 31 + x.forecast(m, what);
+            }
+            for (int a = 0; a < x.about(2); a++) {
+                state = (state * 31 + x.row(a, m, 0)) * 31 + x.row(a, m, 1);
+            }
+            state = (state * 31 + x.place(m, 0, 0)) * 31 + x.place(m, 1, 1);
+            state = (state * 31 + x.told(m, 0, 0)) * 31 + x.told(m, 1, 1);
+        }
+        return state;
+    }
+
     static void finish() {
         System.out.println(wrong == 0 ? "all answers are as due" : wrong + " answers are not as due");
         if (wrong != 0) {

@@ -854,10 +854,10 @@ public final class RoundRows {
     private static final class Tape {
         final char[] signs = new char[TAPE_MOST];
         int length;
-        final int[] kinds = new int[TAPE_MOST + 1];
-        final int[] starts = new int[TAPE_MOST + 1];
-        final int[] stops = new int[TAPE_MOST + 1];
-        int tokens;
+        private final int[] kinds = new int[TAPE_MOST];
+        private final int[] starts = new int[TAPE_MOST];
+        private final int[] stops = new int[TAPE_MOST];
+        private int tokens;
 
         void put(int four) {
             for (int shift = 24; shift >= 0; shift -= 8) {
@@ -868,7 +868,6 @@ public final class RoundRows {
             }
         }
 
-        /** The last token is the end's. */
         void scan() {
             tokens = 0;
             int at = 0;
@@ -880,7 +879,6 @@ public final class RoundRows {
                 }
                 at = stop;
             }
-            add(KIND_END, length, length);
         }
 
         private void add(int kind, int start, int stop) {
@@ -939,10 +937,23 @@ public final class RoundRows {
             return KIND_NAME;
         }
 
+        private boolean isToken(int token) {
+            return token >= 0 && token < tokens;
+        }
+
+        /** Behind the last token is the end. */
+        int kindAt(int token) {
+            return isToken(token) ? kinds[token] : KIND_END;
+        }
+
+        int placeOf(int token) {
+            return isToken(token) ? starts[token] : length;
+        }
+
         /** A token's number; one that is beyond all bounds is told as the first that is. */
         int numberOf(int token) {
             int number = 0;
-            if (token >= 0 && token < tokens) {
+            if (isToken(token)) {
                 for (int i = starts[token]; i < stops[token]; i++) {
                     number = number * 10 + (signs[i] - '0');
                     if (number > NUMBER_MOST) {
@@ -954,6 +965,9 @@ public final class RoundRows {
         }
 
         boolean sameWord(int one, int other) {
+            if (!isToken(one) || !isToken(other)) {
+                return false;
+            }
             int size = stops[one] - starts[one];
             if (size != stops[other] - starts[other]) {
                 return false;
@@ -1034,12 +1048,12 @@ public final class RoundRows {
         }
 
         private int kind() {
-            return token >= 0 && token < tape.tokens ? tape.kinds[token] : KIND_END;
+            return tape.kindAt(token);
         }
 
         private boolean fail(int what) {
             fault = what;
-            place = token >= 0 && token < tape.tokens ? tape.starts[token] : tape.length;
+            place = tape.placeOf(token);
             return false;
         }
 

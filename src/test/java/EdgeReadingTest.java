@@ -681,6 +681,14 @@ public final class EdgeReadingTest {
             x.turn(0, 1, w[0]);
             Due.due("LEAST " + w[0] + ", MOST " + w[1], x.fits(1, 0), w[2]);
         }
+        // by a SPAN of 2: twice as many
+        int[][] two = {{5, 5, 34}, {6, 7, 36}, {8, 11, 56}, {12, 23, 0}, {0, 7, 24}, {13, 13, 2}};
+        for (int[] w : two) {
+            x.turn(0, 1, 0);
+            x.turn(0, 2, w[1]);
+            x.turn(0, 1, w[0]);
+            Due.due("LEAST " + w[0] + ", MOST " + w[1] + ", SPAN 2", x.fits(2, 0), w[2]);
+        }
         // the greatest number told last: no more is a number
         x = Due.stored("step 5; measure c counter 19 20 silence 1000;");
         x.read(1, 999_999, 0, 0, 0);
@@ -709,6 +717,8 @@ public final class EdgeReadingTest {
         Due.due("above SILENCE", x.fits(21, 1), -1);
         x.read(1, 0, 256, 0, 0);
         Due.due("one that is none", x.fits(1, 1), -1);
+        x.turn(1, 1, 5);
+        Due.due("one that is none, LEAST above 0", x.fits(1, 1), -1);
         for (int m : new int[] {-1, 2, 4, INT_MOST, INT_LEAST}) {
             Due.due("fits of " + m, x.fits(1, m), -1);
         }

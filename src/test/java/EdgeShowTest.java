@@ -75,8 +75,10 @@ public final class EdgeShowTest {
         formula("a + b * 3", 13_000);
         formula("a * 3 + b", 23_000);
         formula("a + 8 / b", 11_000);
+        formula("a or b + 1", 7000);
         formula("u or a + b", 9000);
         formula("a + u or b", 2000);
+        formula("1 + a or b", 8000);
     }
 
     /** Terms: "/ is 1000 times the first by the second, UNKNOWN by 0" */

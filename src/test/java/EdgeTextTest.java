@@ -65,7 +65,7 @@ public final class EdgeTextTest {
         Due.faultAt(ahead + "|" + "9".repeat(40) + behind, 2);
     }
 
-    /** A line of these tokens is good; cut short ahead of any of them, or with a sign there, it is a FAULT 1 there. */
+    /** A line of these tokens is good; cut short ahead of any of them, or with another TOKEN there, it is a FAULT 1 there. */
     private static void line(String ahead, String tokens) {
         Due.stored(ahead + tokens);
         String[] all = tokens.split(" ");
@@ -73,10 +73,21 @@ public final class EdgeTextTest {
         for (int k = 0; k < all.length; k++) {
             if (k > 0) {
                 Due.faultAt(text + "|", 1);
+                for (String other : "step measure silence archive by share forecast season band show or = ( ) + - * / ; 1 zz".split(" ")) {
+                    if (!other.equals(all[k]) && !sameKind(other, all[k])) {
+                        Due.faultAt(text + "|" + other, 1);
+                        // the rest of the line does not mend it
+                        Due.faultAt(text + "|" + other + tokens.substring(text.length() - ahead.length() + all[k].length()), 1);
+                    }
+                }
             }
-            Due.faultAt(text + "|= " + (k == 0 ? tokens : ""), 1);
             text.append(all[k]).append(' ');
         }
+    }
+
+    private static boolean sameKind(String one, String other) {
+        return one.equals("1") && Character.isDigit(other.charAt(0)) || one.equals("zz") && other.equals("g")
+                || one.equals(";") && (other.equals("least") || other.equals("most"));
     }
 
     // ---- Terms
@@ -86,6 +97,10 @@ public final class EdgeTextTest {
         RoundRows x = Due.stored("step 7;" + " ".repeat(991) + " \n");
         Due.due("step of a text of 1,000 bytes", x.about(0), 7);
         Due.faultAt("step 7;" + " ".repeat(992) + "|;", 1);
+        Due.faultAt("step 7;" + " ".repeat(987) + "|measur", 1);
+        Due.faultAt("step 7;" + " ".repeat(986) + "measure|", 1);
+        Due.faultAt("step 7; show s =" + " ".repeat(980) + "9999|", 1);
+        Due.faultAt("step 7; show s =" + " ".repeat(979) + "|10000", 2);
         Due.put(x, "step 8;" + " ".repeat(993));
         Due.due("a byte beyond 1,000", x.feed(';' << 24, 0, 0, 0, 0), -1);
         Due.due("without it", x.store(), 0);
@@ -117,6 +132,8 @@ public final class EdgeTextTest {
         Due.faultAt("step 1; measure g gauge silence 1 least |most 2;", 1);
         Due.faultAt("step 1; measure g gauge silence 1 least 2 most |;", 1);
         Due.faultAt("step 1; measure g gauge silence 1 least 2 |2;", 1);
+        Due.faultAt("step 1; measure g gauge |least 2;", 1);
+        Due.faultAt("step 1; measure g gauge |most 2;", 1);
     }
 
     /** Terms: "sort = gauge | amount | counter N N." */
@@ -612,6 +629,15 @@ public final class EdgeTextTest {
         x.end(7);
         Due.due("store", x.store(), 0);
         Due.due("step", x.about(0), 1);
+        // a number and a word are as long as what is left of them
+        Due.put(x, "step 61;");
+        x.end(6);
+        x.store();
+        fault(x, "step 6", 1, 6);
+        Due.put(x, "step 6;showy");
+        x.end(11);
+        x.store();
+        fault(x, "step 6;show", 1, 11);
     }
 
     /** Promise 4: "The TAPE (empty then, also at a FAULT) is the STORE" */
@@ -632,42 +658,53 @@ public final class EdgeTextTest {
 
     /** Promise 4: "(all anew, TIME 0, no ACTS are kept; BOXES are empty): how many MEASURES" */
     private static void storeBeginsAnew() {
-        String text = "step 2;" + FOUR + "archive mean 1 by 9 share 9; forecast d season 2 by 16 16 16 band 1; show s = a;";
-        RoundRows x = Due.stored(text);
-        for (int i = 0; i < 9; i++) {
-            x.read(1, 9, 9, 9, i);
+        String[] texts = {
+            "step 2;" + FOUR.replace("silence ", "silence 1") + "archive latest 1 by 9 share 9; archive mean 3 by 9 share 9; show s = a; show t = s + (c * 2);"
+                    + "forecast d season 24 by 3 5 7 band 1; forecast b season 2 by 0 0 16 band 2;",
+            "step 7; measure c counter 4 8 silence 9 least 1 most 50; measure a amount silence 9 least 2; archive most 2 by 2 share 0;"
+                    + "show s = 5; forecast c season 3 by 8 8 8 band 1; forecast a season 3 by 8 8 8 band 1;",
+            "", "step 3;" + FOUR.substring(0, FOUR.indexOf("measure c")) + "archive mean 3 by 9 share 9;", "step 1;" + G + "show s = 7 + g;",
+            "step 2; archive least 1 by 9 share 0; show s = 1" + " + 1".repeat(29) + ";", "step 2; measure d counter 5 9 silence 3;",
+        };
+        int[] measures = {4, 2, 0, 2, 1, 0, 1};
+        for (String ahead : texts) {
+            for (int k = 0; k < texts.length; k++) {
+                RoundRows x = new RoundRows();
+                for (int twice = 0; twice < 2; twice++) {
+                    storeOf(x, ahead);
+                    readings(x);
+                    x.turn(0, 1, 5);
+                    x.image(0);
+                    x.image(1);
+                    x.undo();
+                }
+                String of = texts[k] + " behind " + ahead;
+                Due.due("measures of " + of, storeOf(x, texts[k]), measures[k]);
+                RoundRows fresh = Due.stored(texts[k]);
+                anew(of, x, fresh);
+                Due.due("box 0 is empty, " + of, x.back(0), -1);
+                Due.due("box 1 is empty, " + of, x.back(1), -1);
+                readings(x);
+                readings(fresh);
+                anew("readings, " + of, x, fresh);
+            }
         }
-        x.turn(3, 1, 5);
-        x.image(0);
-        x.image(1);
-        x.undo();
-        Due.put(x, text);
-        Due.due("how many", x.store(), 4);
-        int[] about = {2, 4, 1, 1, 8, 0, 0, 0, 1, 0, 0, 0};
-        for (int what = 0; what < about.length; what++) {
-            Due.due("about(" + what + ")", x.about(what), about[what]);
+    }
+
+    private static void readings(RoundRows x) {
+        for (int i = 0; i < 7; i++) {
+            x.read(1 + i % 3, 30 + 5 * i, i == 4 ? -1 : 3 * i, 9, i);
         }
-        Due.due("no act", x.undo(), false);
-        Due.due("nor one again", x.redo(), false);
-        Due.due("box 0", x.back(0), -1);
-        Due.due("box 1", x.back(1), -1);
-        Due.due("least", x.measure(3, 1), 0);
-        Due.due("units", x.measure(3, 4), 0);
-        Due.due("rate", x.rate(3), U);
-        Due.due("value", x.value(3), U);
-        Due.due("rows", x.archive(0, 4), 0);
-        Due.due("row", x.row(0, 3, 0), U);
-        int[] forecast = {0, 0, 0, 2, 1, 0};
-        for (int what = 0; what < forecast.length; what++) {
-            Due.due("forecast(" + what + ")", x.forecast(3, what), forecast[what]);
+    }
+
+    /** Two objects tell the same. */
+    private static void anew(String of, RoundRows x, RoundRows fresh) {
+        Due.due("all anew: " + of, Due.stateOf(x) == Due.stateOf(fresh), true);
+        for (int what = 0; what < 12; what++) {
+            Due.due("all anew, about(" + what + "): " + of, x.about(what), fresh.about(what));
         }
-        for (int p = 0; p < 2; p++) {
-            Due.due("swing", x.place(3, p, 0), 0);
-            Due.due("spread", x.place(3, p, 1), 0);
-        }
-        x.read(2, 1, 1, 1, 1);
-        Due.due("the row that is over now", x.row(0, 0, 0), U);
-        Due.due("three", storeOf(x, "step 1;" + FOUR.substring(0, FOUR.indexOf("measure d"))), 3);
+        Due.due("all anew, show: " + of, x.show(0, 0, 0), fresh.show(0, 0, 0));
+        Due.due("all anew, show: " + of, x.show(1, 1, 0), fresh.show(1, 1, 0));
     }
 
     private static int storeOf(RoundRows x, String text) {

@@ -12,12 +12,14 @@ import java.util.stream.Collectors;
 import java.util.stream.Stream;
 
 /**
- * The remarks in the tests named Edge..: each test there says which sentence of the document it holds, the sentence stands there,
- * and no sentence of the terms and of the promises is left without a test.
+ * The remarks of the tests of promises: each one says which sentence of the document it holds, the sentence stands there, and no
+ * sentence of the terms and of the promises is left without a test.
  */
 public final class RemarksTest {
     private static final Path DOC = Path.of("../shared/DOC.md");
     private static final Path TESTS = Path.of("src/test/java");
+    /** These hold no single sentences. */
+    private static final List<String> OTHERS = List.of("FaceTest.java", "ModelTest.java", "RemarksTest.java");
     private static final Pattern TEST = Pattern.compile("(/\\*\\*(?:(?!\\*/).)*\\*/)?\\s*private static void (\\w+)\\(\\) \\{", Pattern.DOTALL);
     private static final Pattern REMARK = Pattern.compile("([A-Z][a-z ]+(?: \\d+)?): ((?:\"[^\"]+\",? ?)+)");
     private static final Pattern QUOTE = Pattern.compile("\"([^\"]+)\"");
@@ -28,7 +30,7 @@ public final class RemarksTest {
         for (Map.Entry<String, String> section : sections.entrySet()) {
             held.put(section.getKey(), new boolean[section.getValue().length()]);
         }
-        for (Path file : edgeTests()) {
+        for (Path file : tests()) {
             remarks(file, sections, held);
         }
         for (String name : sections.keySet()) {
@@ -41,9 +43,10 @@ public final class RemarksTest {
         Due.finish();
     }
 
-    private static List<Path> edgeTests() throws IOException {
+    private static List<Path> tests() throws IOException {
         try (Stream<Path> files = Files.list(TESTS)) {
-            return files.filter(f -> f.getFileName().toString().startsWith("Edge")).sorted().collect(Collectors.toList());
+            return files.filter(f -> f.toString().endsWith("Test.java") && !OTHERS.contains(f.getFileName().toString())).sorted()
+                    .collect(Collectors.toList());
         }
     }
 

@@ -3,7 +3,7 @@ import java.util.Random;
 /** Random runs of calls (always the same ones) on a RoundRows and on the model: all answers must be like. */
 public final class ModelTest {
     private static final int RUNS = 400;
-    private static final int CALLS = 480;
+    private static final int CALLS = 440;
 
     private final Random random;
     private final RoundRows x = new RoundRows();
@@ -77,8 +77,8 @@ public final class ModelTest {
             }
         }
         int at = 0;
-        int made = 2;
-        for (; at < text.length() && x.about(11) + 20 <= 1000; at += 20) {
+        int made = 4;
+        for (; at < text.length() && model.about(11) + 20 <= 1000; at += 20) {
             int[] five = new int[5];
             for (int k = 0; k < 20; k++) {
                 five[k / 4] = five[k / 4] << 8 | (at + k < text.length() ? text.charAt(at + k) & 255 : 32);
@@ -216,7 +216,7 @@ public final class ModelTest {
             case 5:
                 return below(2000);
             case 6:
-                int last = x.measure(m, 5);
+                int last = model.measure(m, 5);
                 return last + below(50) - 10;
             default:
                 return below(40);
@@ -255,11 +255,11 @@ public final class ModelTest {
 
     /** Mostly one of so many that there are. */
     private int index(int what) {
-        return one(15) ? below(7) - 1 : below(Math.max(1, x.about(what)));
+        return one(15) ? below(7) - 1 : below(Math.max(1, model.about(what)));
     }
 
     private int time() {
-        return one(10) ? below(40) - 20 : below(x.about(5) + 30) - 5;
+        return one(10) ? below(40) - 20 : below(model.about(5) + 30) - 5;
     }
 
     private void ask(int k) {

@@ -19,7 +19,7 @@ public final class RemarksTest {
     private static final Path DOC = Path.of("../shared/DOC.md");
     private static final Path TESTS = Path.of("src/test/java");
     /** These hold no single sentences. */
-    private static final List<String> OTHERS = List.of("FaceTest.java", "ModelTest.java", "RemarksTest.java");
+    private static final List<String> OTHERS = List.of("FaceTest.java", "ModelTest.java", "ReadmeTest.java", "RemarksTest.java");
     private static final Pattern TEST = Pattern.compile("(/\\*\\*(?:(?!\\*/).)*\\*/)?\\s*private static void (\\w+)\\(\\) \\{", Pattern.DOTALL);
     private static final Pattern REMARK = Pattern.compile("([A-Z][a-z ]+(?: \\d+)?): ((?:\"[^\"]+\",? ?)+)");
     private static final Pattern QUOTE = Pattern.compile("\"([^\"]+)\"");
